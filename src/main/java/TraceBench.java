@@ -69,6 +69,7 @@ public final class TraceBench {
     }
 
     public int trigger() {
+        tape.split();
         boolean well = reader.readPlan(scope.draft);
         tape.cutTo(0);
         if (!well) {
@@ -355,9 +356,16 @@ public final class TraceBench {
         return (number & 255) << (24 - 8 * trace);
     }
 
+    /** The text of a trigger and the tokens it is split into, of which the end is the last. */
     private static final class Tape {
+        private static final int END = 0, WORD = 1, NUMBER = 2, STAR = 3, SEMICOLON = 4, BROKEN = 5;
+
         private final byte[] cells = new byte[TAPE_BYTES];
         private int length;
+        private final int[] kinds = new int[TAPE_BYTES + 1];
+        private final int[] starts = new int[TAPE_BYTES + 1];
+        private final int[] values = new int[TAPE_BYTES + 1];
+        private int tokens;
 
         boolean append(long v) {
             if (length > TAPE_BYTES - 8) {
@@ -378,25 +386,78 @@ public final class TraceBench {
             return true;
         }
 
-        /** -1, which is no byte, beyond its ends. */
-        int byteAt(int i) {
-            return isIn(i, 0, length - 1) ? cells[i] & 255 : -1;
+        /** What is broken is a token too: nobody may take it, so what stands behind it is never seen. */
+        void split() {
+            tokens = 0;
+            int i = 0;
+            while (i < length) {
+                int behind = cells[i] == ' ' ? i : addToken(i);
+                i = Math.max(behind, i + 1);
+            }
+            put(END, length, 0);
         }
 
-        boolean isLetter(int i) {
-            return isIn(byteAt(i), 'a', 'z');
+        private void put(int kind, int start, int value) {
+            if (tokens < kinds.length) {
+                kinds[tokens] = kind;
+                starts[tokens] = start;
+                values[tokens] = value;
+                tokens++;
+            }
         }
 
-        boolean isFigure(int i) {
-            return isIn(byteAt(i), '0', '9');
+        private int addToken(int start) {
+            int sign = cells[start];
+            if (sign == '*' || sign == ';') {
+                put(sign == '*' ? STAR : SEMICOLON, start, 0);
+                return start + 1;
+            }
+            return isIn(sign, 'a', 'z') ? addWord(start) : addNumber(start);
         }
 
-        boolean spells(int from, int behind, String word) {
-            if (behind - from != word.length()) {
+        private int addWord(int start) {
+            int behind = start;
+            while (behind < length && isIn(cells[behind], 'a', 'z')) {
+                behind++;
+            }
+            int word = wordOf(start, behind);
+            put(word == NO_WORD ? BROKEN : WORD, start, word);
+            return behind;
+        }
+
+        private int addNumber(int start) {
+            boolean minus = cells[start] == '-';
+            int figures = minus ? start + 1 : start;
+            int behind = figures;
+            int number = 0;
+            while (behind < length && isIn(cells[behind], '0', '9')) {
+                number = 10 * number + cells[behind] - '0';
+                behind++;
+            }
+            boolean well = isIn(behind - figures, 1, 3);
+            put(well ? NUMBER : BROKEN, start, minus ? -number : number);
+            return behind;
+        }
+
+        private int wordOf(int from, int behind) {
+            if (spells(from, behind, "rise")) return RISE;
+            if (spells(from, behind, "fall")) return FALL;
+            if (spells(from, behind, "wide")) return WIDE;
+            if (spells(from, behind, "thin")) return THIN;
+            if (spells(from, behind, "runt")) return RUNT;
+            if (spells(from, behind, "in")) return IN;
+            if (spells(from, behind, "out")) return OUT;
+            if (spells(from, behind, "equal")) return EQUAL;
+            if (spells(from, behind, "within")) return WITHIN;
+            return NO_WORD;
+        }
+
+        private boolean spells(int from, int behind, String word) {
+            if (from < 0 || behind > length || behind - from != word.length()) {
                 return false;
             }
             for (int i = 0; i < word.length(); i++) {
-                if (byteAt(from + i) != word.charAt(i)) {
+                if (cells[from + i] != word.charAt(i)) {
                     return false;
                 }
             }
@@ -404,19 +465,12 @@ public final class TraceBench {
         }
     }
 
-    /**
-     * Reads the tape with one token ahead. A number is judged before the next token is read,
-     * since the first fault that is met counts.
-     */
+    /** Goes through the tape's tokens and tells a plan from them, or the first fault met. */
     private static final class Reader {
-        private static final int END = 0, WORD = 1, NUMBER = 2, STAR = 3, SEMICOLON = 4;
         private static final int BELOW_ALL = -1000;
 
         private final Tape tape;
-        private int kind;
-        private int start;
-        private int behind;
-        private int value;
+        private int now;
         private int taken;
         private int flaw;
         private int flawPlace;
@@ -428,23 +482,17 @@ public final class TraceBench {
         boolean readPlan(Plan plan) {
             flaw = 0;
             flawPlace = 0;
-            behind = 0;
+            now = 0;
             plan.count = 0;
-            if (!readToken()) {
-                return false;
-            }
             for (int k = 0; k < MOST_STAGES; k++) {
                 if (!readStage(plan.stages[k])) {
                     return false;
                 }
                 plan.count = k + 1;
-                if (kind == END) {
+                if (sees(Tape.END)) {
                     return true;
                 }
-                if (kind != SEMICOLON) {
-                    return refuse(FLAW_ORDER);
-                }
-                if (!readToken()) {
+                if (!take(Tape.SEMICOLON)) {
                     return false;
                 }
             }
@@ -453,161 +501,112 @@ public final class TraceBench {
 
         private boolean readStage(Stage stage) {
             stage.times = 1;
-            stage.within = 0;
-            if (kind == NUMBER) {
+            if (sees(Tape.NUMBER)) {
                 if (!takeNumber(1, 20, BELOW_ALL)) {
                     return false;
                 }
                 stage.times = taken;
-                if (kind != STAR) {
-                    return refuse(FLAW_ORDER);
-                }
-                if (!readToken()) {
+                if (!take(Tape.STAR)) {
                     return false;
                 }
             }
-            if (kind != WORD || value == WITHIN) {
+            if (seesWithin()) {
                 return refuse(FLAW_ORDER);
             }
-            stage.event = value;
-            return readToken() && readOperands(stage) && readWithin(stage);
+            if (!take(Tape.WORD)) {
+                return false;
+            }
+            stage.event = taken;
+            return readOperands(stage) && readWithin(stage);
         }
 
         private boolean readOperands(Stage stage) {
-            if (!takeTrace()) {
+            if (!takeNumber(0, TRACES - 1, BELOW_ALL)) {
                 return false;
             }
             stage.trace = taken;
-            if (stage.event == EQUAL) {
-                if (!takeTrace()) {
-                    return false;
-                }
-                stage.other = taken;
-                return true;
-            }
-            if (!takeLevel(BELOW_ALL)) {
-                return false;
-            }
+            boolean well = stage.event == EQUAL
+                ? takeNumber(0, TRACES - 1, BELOW_ALL)
+                : takeNumber(-128, 127, BELOW_ALL);
+            stage.other = taken;
             stage.level = taken;
+            return well && readThird(stage);
+        }
+
+        private boolean readThird(Stage stage) {
+            boolean well = true;
             switch (stage.event) {
                 case WIDE:
                 case THIN:
-                    if (!takeNumber(1, 200, BELOW_ALL)) {
-                        return false;
-                    }
+                    well = takeNumber(1, 200, BELOW_ALL);
                     stage.span = taken;
-                    return true;
+                    break;
                 case RUNT:
                 case IN:
                 case OUT:
-                    if (!takeLevel(stage.level)) {
-                        return false;
-                    }
+                    well = takeNumber(-128, 127, stage.level);
                     stage.top = taken;
-                    return true;
+                    break;
                 default:
-                    return true;
+                    break;
             }
+            return well;
         }
 
         private boolean readWithin(Stage stage) {
-            if (kind != WORD || value != WITHIN) {
+            stage.within = 0;
+            if (!seesWithin()) {
                 return true;
             }
-            if (!readToken() || !takeNumber(1, 200, BELOW_ALL)) {
-                return false;
-            }
+            now++;
+            boolean well = takeNumber(1, 200, BELOW_ALL);
             stage.within = taken;
+            return well;
+        }
+
+        private boolean sees(int kind) {
+            return now < tape.tokens && tape.kinds[now] == kind;
+        }
+
+        private boolean seesWithin() {
+            return sees(Tape.WORD) && tape.values[now] == WITHIN;
+        }
+
+        private boolean take(int kind) {
+            if (!sees(kind)) {
+                return refuse(FLAW_ORDER);
+            }
+            taken = tape.values[now];
+            now++;
             return true;
-        }
-
-        private boolean takeTrace() {
-            return takeNumber(0, TRACES - 1, BELOW_ALL);
-        }
-
-        private boolean takeLevel(int above) {
-            return takeNumber(-128, 127, above);
         }
 
         private boolean takeNumber(int low, int high, int above) {
-            if (kind != NUMBER) {
+            if (!sees(Tape.NUMBER)) {
                 return refuse(FLAW_ORDER);
             }
-            if (!isIn(value, low, high)) {
+            int v = tape.values[now];
+            if (!isIn(v, low, high)) {
                 return refuse(FLAW_BOUNDS);
             }
-            if (value <= above) {
+            if (v <= above) {
                 return refuse(FLAW_LEVELS);
             }
-            taken = value;
-            return readToken();
+            taken = v;
+            now++;
+            return true;
         }
 
+        /** Whatever was wanted there, a broken token is a fault of its own. */
         private boolean refuse(int what) {
             flaw = what;
-            flawPlace = start;
+            if (now < tape.tokens) {
+                flawPlace = tape.starts[now];
+                if (tape.kinds[now] == Tape.BROKEN) {
+                    flaw = FLAW_TOKEN;
+                }
+            }
             return false;
-        }
-
-        private boolean readToken() {
-            start = behind;
-            while (start < tape.length && tape.byteAt(start) == ' ') {
-                start++;
-            }
-            behind = start;
-            if (start >= tape.length) {
-                kind = END;
-                return true;
-            }
-            if (tape.isLetter(start)) {
-                return readWord();
-            }
-            int sign = tape.byteAt(start);
-            if (sign == '*' || sign == ';') {
-                kind = sign == '*' ? STAR : SEMICOLON;
-                behind = start + 1;
-                return true;
-            }
-            return readNumber();
-        }
-
-        private boolean readWord() {
-            while (behind < tape.length && tape.isLetter(behind)) {
-                behind++;
-            }
-            kind = WORD;
-            value = wordOf(start, behind);
-            return value != NO_WORD || refuse(FLAW_TOKEN);
-        }
-
-        private int wordOf(int from, int to) {
-            if (tape.spells(from, to, "rise")) return RISE;
-            if (tape.spells(from, to, "fall")) return FALL;
-            if (tape.spells(from, to, "wide")) return WIDE;
-            if (tape.spells(from, to, "thin")) return THIN;
-            if (tape.spells(from, to, "runt")) return RUNT;
-            if (tape.spells(from, to, "in")) return IN;
-            if (tape.spells(from, to, "out")) return OUT;
-            if (tape.spells(from, to, "equal")) return EQUAL;
-            if (tape.spells(from, to, "within")) return WITHIN;
-            return NO_WORD;
-        }
-
-        private boolean readNumber() {
-            boolean minus = tape.byteAt(start) == '-';
-            int figures = minus ? start + 1 : start;
-            int number = 0;
-            behind = figures;
-            while (behind < tape.length && tape.isFigure(behind)) {
-                number = 10 * number + tape.byteAt(behind) - '0';
-                behind++;
-            }
-            if (!isIn(behind - figures, 1, 3)) {
-                return refuse(FLAW_TOKEN);
-            }
-            kind = NUMBER;
-            value = minus ? -number : number;
-            return true;
         }
     }
 
@@ -698,8 +697,9 @@ public final class TraceBench {
             return isIn(s, oldest(), count - 1);
         }
 
+        /** Only behind has(s), but for the one ahead of all, which nobody looks at. */
         int get(int s) {
-            return has(s) ? samples[s % RING_SAMPLES] : 0;
+            return samples[Math.floorMod(s, RING_SAMPLES)];
         }
     }
 

@@ -164,6 +164,11 @@ public final class RowTest {
         check.due("about no row", x.about(4, 0), -1);
         check.due("about no row", x.about(-1, 0), -1);
         check.due("total", x.total(0), 11);
+        TraceBench y = Check.withSegment(9, 9, 8);
+        y.row(0, 0, 0);
+        check.due("the greatest is the first", y.about(0, 3), 0);
+        y.reckon(0, 7, 0, 0, -1);
+        check.due("the least is the first", y.about(0, 2), 0);
         check.due("total of nothing", x.total(1), 0);
         check.due("total of no row", x.total(4), 0);
         check.due("total of no row", x.total(-1), 0);
@@ -224,6 +229,8 @@ public final class RowTest {
         check.due("all of 2 to 4", x.eye(0, 0, 1, 0, 2, 3, 0), 3);
         check.due("every third of 0 to 9", x.eye(0, 0, 3, 0, 0, 10, 0), 4);
         check.due("every third behind 1", x.eye(0, 1, 3, 2, 0, 10, 0), 3);
+        check.due("places 3, 6, 9 alone", x.eye(0, 1, 3, 2, 3, 3, 0), 1);
+        check.due("place 3 alone", x.eye(0, 1, 3, 2, 3, 1, 0), 1);
         check.due("band 4", x.eye(0, 0, 1, 0, 0, 2, 4), 2);
         check.due("rounded down", x.eye(0, 0, 1, 0, 5, 10, 0), 5);
         check.due("no such m", x.eye(0, 0, 3, 3, 0, 10, 0), 0);

@@ -47,6 +47,8 @@ public final class SheetTest {
         check.due("short 65535 is -1", beyond(x, 1, 65535), 0);
         check.due("int 65535", beyond(x, 2, 65535), 1);
         check.due("int below", beyond(x, 2, Integer.MIN_VALUE), 0);
+        x.lay(0, 0, 1);
+        x.lay(0, 1, 127);
         x.sheet(0, 0, 2);
         check.due("new cells are 0", x.mask(0, 0, 0, 0, 0, 1), 1);
         check.due("new cells are 0", x.mask(0, 0, 0, 0, 1, 1), 0);

@@ -58,6 +58,8 @@ public final class TapeTest {
         check.fault("  Rise 0 1", 1, 2);
         check.fault("rises 0 1", 1, 0);
         check.fault("ris 0 1", 1, 0);
+        check.fault("xise 0 1", 1, 0);
+        check.fault("risf 0 1", 1, 0);
         check.fault("withins 0 1", 1, 0);
         check.fault("rise 0 0001", 1, 7);
         check.fault("rise 0 -0001", 1, 7);
@@ -119,6 +121,7 @@ public final class TapeTest {
         check.fault("rise 9 x", 3, 5);
         check.fault("runt 0 5 5", 5, 9);
         check.fault("in 0 5 4", 5, 7);
+        check.fault("in 0 -128 -128", 5, 10);
         check.fault("out 0 -5 -6", 5, 9);
         check.fault("out 0 5 -129", 3, 8);
         check.fault("in 0 5 5 x", 5, 7);

@@ -89,6 +89,10 @@ public final class WireTest {
         check.due("a short 0", x.bytes(0, 0, 4), 1);
         check.due("got", x.got(0), 0x55);
         check.due("when", x.when(0), 4);
+        // Behind a short 0 a 0 behind a 0 begins none either.
+        TraceBench v = new Line().say("1001011", 1).say("1", 60).bench();
+        check.due("a 0 behind a 0", v.bytes(0, 0, 4), 0);
+        check.due("no fault", v.when(-1), -4);
         // The last place looked at is the middle of the last bit.
         TraceBench y = new Line().say("0", 4).say("0".repeat(8), 4).say("1", 3).bench();
         check.due("it ends with its last place", y.bytes(0, 0, 4), 1);
@@ -132,6 +136,9 @@ public final class WireTest {
         }
         check.due("what was got stays", x.got(1), 256 + 0x0F);
         check.due("without a ninth bit", two("s10100101").wires(0, 0, 1), 0);
+        TraceBench open = two("s00");
+        check.due("it ends with the clock 1, the data 0", open.wires(0, 0, 1), 0);
+        check.due("that is no stop", open.when(-1), -4);
         TraceBench y = two("101s101s111111110p");
         check.due("a new start begins bits anew", y.wires(0, 0, 1), 1);
         check.due("got", y.got(0), 255);
@@ -193,6 +200,28 @@ public final class WireTest {
         return x;
     }
 
+    /** The longest frame takes eleven bytes: as many as two wires can bring in a segment. */
+    private static void longFrame(Check check) {
+        StringBuilder bits = new StringBuilder();
+        for (int v : new int[] {85, 8, 1, 2, 3, 4, 5, 6, 7, 250, 30}) {
+            bits.append(Integer.toBinaryString(256 + v).substring(1)).append('0');
+        }
+        TraceBench x = new TraceBench();
+        Check.trigger(x, "rise 3 1");
+        x.keep(100, 100);
+        x.arm();
+        x.come(Check.sample(0, 0, 0, 0) << 32 | Check.sample(0, -1, 0, 0));
+        for (int i = 0; i < bits.length(); i++) {
+            int data = bits.charAt(i) == '1' ? 0 : -1;
+            x.come(Check.sample(-1, data, 0, i == 49 ? 1 : 0) << 32 | Check.sample(0, data, 0, 0));
+        }
+        x.come(0);
+        check.due("places", x.segment(0, 1), 201);
+        check.due("eleven", x.wires(0, 0, 1), 11);
+        check.due("the last", x.got(10), 30);
+        check.due("the longest frame", x.frame(0), 0);
+    }
+
     private static void frames(Check check) {
         TraceBench x = got(7, 85, 2, 200, 100, 46, 85, 1, 9, 10);
         check.due("bytes", x.got(9), 10);
@@ -215,5 +244,6 @@ public final class WireTest {
         check.due("wires", y.wires(0, 0, 1), 4);
         check.due("with ninth bits", y.got(0), 256 + 85);
         check.due("the lowest eight bits", y.frame(0), 0);
+        longFrame(check);
     }
 }
