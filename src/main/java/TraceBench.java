@@ -117,7 +117,8 @@ public final class TraceBench {
             return BAD;
         }
         Row from = rows[row];
-        if (i < 0 || i > from.length - n) {
+        // The place from which on they come has to be there even if none comes.
+        if (!isIn(i, 0, from.length - 1) || n > from.length - i) {
             return BAD;
         }
         for (int j = 0; j < n; j++) {
@@ -287,7 +288,10 @@ public final class TraceBench {
     }
 
     public int eye(int r, int first, int n, int m, long low, int high, int c) {
-        if (!isFilled(r) || first < 0 || !isIn(n, 1, 32) || !isIn(high, 1, 1000) || !isIn(c, 0, 15)) {
+        if (!isFilled(r) || first < 0 || !isIn(n, 1, 32) || !isIn(m, 0, n - 1)) {
+            return BAD;
+        }
+        if (!isIn(high, 1, 1000) || !isIn(c, 0, 15)) {
             return BAD;
         }
         Row folded = rows[r];

@@ -233,8 +233,7 @@ public final class RowTest {
         check.due("place 3 alone", x.eye(0, 1, 3, 2, 3, 1, 0), 1);
         check.due("band 4", x.eye(0, 0, 1, 0, 0, 2, 4), 2);
         check.due("rounded down", x.eye(0, 0, 1, 0, 5, 10, 0), 5);
-        check.due("no such m", x.eye(0, 0, 3, 3, 0, 10, 0), 0);
-        check.due("no such m", x.eye(0, 0, 3, -1, 0, 10, 0), 0);
+        check.due("the greatest m", x.eye(0, 0, 3, 2, 0, 10, 0), 3);
         check.due("from behind", x.eye(0, 10, 1, 0, 0, 10, 0), 0);
         check.due("from far behind", x.eye(0, Integer.MAX_VALUE, 32, 31, 0, 10, 0), 0);
         check.due("high 1000", x.eye(0, 0, 1, 0, -15000, 1000, 15), 10);
@@ -242,7 +241,9 @@ public final class RowTest {
         check.due("low far", x.eye(0, 0, 1, 0, Long.MAX_VALUE, 1, 0), 0);
         int[][] wrong = {{1, 0, 1, 0, 1, 0}, {4, 0, 1, 0, 1, 0}, {-1, 0, 1, 0, 1, 0}, {0, -1, 1, 0, 1, 0},
             {0, 0, 0, 0, 1, 0}, {0, 0, 33, 0, 1, 0}, {0, 0, 1, 0, 0, 0}, {0, 0, 1, 0, 1001, 0}, {0, 0, 1, 0, 1, -1},
-            {0, 0, 1, 0, 1, 16}};
+            {0, 0, 1, 0, 1, 16}, {0, 0, 3, 3, 10, 0}, {0, 0, 3, -1, 10, 0}, {0, 0, 1, 1, 1, 0},
+            {0, 0, 32, 32, 1, 0}, {0, 0, 3, Integer.MAX_VALUE, 1, 0}, {0, 0, 3, Integer.MIN_VALUE, 1, 0},
+            {0, 10, 3, 3, 1, 0}};
         for (int[] w : wrong) {
             check.due("eye " + java.util.Arrays.toString(w), x.eye(w[0], w[1], w[2], w[3], 0, w[4], w[5]), -1);
         }

@@ -297,7 +297,7 @@ final class SlowBench {
             return -1;
         }
         List<Long> from = noRow(row) ? new ArrayList<>() : rows.get(row);
-        if ((long) i + n > from.size()) {
+        if (i >= from.size() || (long) i + n > from.size()) {
             return -1;
         }
         for (Long v : from.subList(i, i + n)) {
@@ -518,7 +518,7 @@ final class SlowBench {
     }
 
     int eye(int r, int first, int n, int m, long low, int high, int c) {
-        if (noRow(r) || first < 0 || n < 1 || n > 32 || high < 1 || high > 1000 || c < 0 || c > 15) {
+        if (noRow(r) || first < 0 || n < 1 || n > 32 || m < 0 || m >= n || high < 1 || high > 1000 || c < 0 || c > 15) {
             return -1;
         }
         int count = 0;
