@@ -117,8 +117,8 @@ public final class TraceBench {
             return BAD;
         }
         Row from = rows[row];
-        // The place from which on they come has to be there even if none comes.
-        if (!isIn(i, 0, from.length - 1) || n > from.length - i) {
+        // A row of nothing is no row, even if none is to come of it.
+        if (from.length == 0 || !isIn(i, 0, from.length - n)) {
             return BAD;
         }
         for (int j = 0; j < n; j++) {

@@ -136,14 +136,26 @@ public final class RandomTest {
 
     private void comes() {
         if (below(8) == 0) {
-            int[] n = {mostly(0, 3), mostly(0, 3), mostly(0, 5), mostly(0, 20)};
-            due("play", x.play(n[0], n[1], n[2], n[3]), y.play(n[0], n[1], n[2], n[3]));
+            plays();
             return;
         }
         long first = someSample();
         long second = below(3) == 0 ? first : someSample();
         long v = first << 32 | second;
         due("come(" + v + ")", x.come(v), y.come(v));
+    }
+
+    /** A third of them begins or ends about the end of the row. */
+    private void plays() {
+        int r = mostly(0, 3);
+        int trace = mostly(0, 3);
+        int i = mostly(0, 5);
+        int n = mostly(0, 20);
+        if (below(3) == 0) {
+            n = below(3);
+            i = Math.max(0, y.about(r, 0)) - n + below(3) - 1;
+        }
+        due("play(" + r + ", " + trace + ", " + i + ", " + n + ")", x.play(r, trace, i, n), y.play(r, trace, i, n));
     }
 
     private void looks() {

@@ -284,13 +284,15 @@ public final class ScopeTest {
         int came = x.told(4);
         int[][] wrong = {{-1, 0, 0, 1}, {4, 0, 0, 1}, {1, 4, 0, 1}, {1, -1, 0, 1}, {1, 0, -1, 1}, {1, 0, 5, 1},
             {1, 0, 0, 6}, {1, 0, 4, 2}, {1, 0, 0, -1}, {1, 0, 0, 65}, {2, 0, 0, 1}, {1, 0, Integer.MAX_VALUE, 64},
-            {1, 0, Integer.MIN_VALUE, 64}, {2, 0, 0, 0}, {1, 0, 5, 0}, {1, 0, -1, 0}, {1, 0, Integer.MAX_VALUE, 0}};
+            {1, 0, Integer.MIN_VALUE, 64}, {2, 0, 0, 0}, {1, 0, 6, 0}, {1, 0, -1, 0}, {1, 0, Integer.MAX_VALUE, 0},
+            {4, 0, 0, 0}, {1, 4, 5, 0}};
         for (int[] w : wrong) {
             check.due("play " + java.util.Arrays.toString(w), x.play(w[0], w[1], w[2], w[3]), -1);
         }
         check.due("none came", x.told(4), came);
         check.due("play none", x.play(1, 2, 0, 0), 1);
         check.due("play none from the last on", x.play(1, 2, 4, 0), 1);
+        check.due("play none from behind the last on", x.play(1, 2, 5, 0), 1);
         check.due("none came yet", x.told(4), came);
         check.due("play", x.play(1, 2, 0, 5), 1);
         int[] wanted = {0, 9, 44, 0, 15};

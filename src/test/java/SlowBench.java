@@ -293,11 +293,11 @@ final class SlowBench {
     }
 
     int play(int row, int trace, int i, int n) {
-        if (row < 0 || row > 3 || trace < 0 || trace > 3 || n < 0 || n > 64 || i < 0) {
+        if (noRow(row) || trace < 0 || trace > 3 || n < 0 || n > 64 || i < 0) {
             return -1;
         }
-        List<Long> from = noRow(row) ? new ArrayList<>() : rows.get(row);
-        if (i >= from.size() || (long) i + n > from.size()) {
+        List<Long> from = rows.get(row);
+        if ((long) i + n > from.size()) {
             return -1;
         }
         for (Long v : from.subList(i, i + n)) {
