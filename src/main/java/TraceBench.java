@@ -689,7 +689,7 @@ public final class TraceBench {
         private int count;
 
         void add(int sample) {
-            samples[count % RING_SAMPLES] = sample;
+            samples[Math.floorMod(count, RING_SAMPLES)] = sample;
             count++;
         }
 

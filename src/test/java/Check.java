@@ -2,16 +2,39 @@
 final class Check {
     private int wrong = 0;
     private int looked = 0;
+    private String sentence = "";
+    private int lookedBefore = -1;
+
+    /** The document's sentence by which the answers that follow are due; one without answers is not tested. */
+    void says(String words) {
+        if (looked == lookedBefore) {
+            wrong++;
+            System.out.println("no answer was looked at for: " + sentence);
+        }
+        sentence = words;
+        lookedBefore = looked;
+    }
 
     void due(String call, long got, long want) {
         looked++;
         if (got != want) {
             wrong++;
-            System.out.println(call + " answered " + got + ", due is " + want);
+            System.out.println(call + " answered " + got + ", due is " + want
+                + (sentence.isEmpty() ? "" : " [" + sentence + "]"));
+        }
+    }
+
+    void same(String call, String got, String want) {
+        looked++;
+        if (!got.equals(want)) {
+            wrong++;
+            System.out.println(call + ": " + got + ", due is " + want
+                + (sentence.isEmpty() ? "" : " [" + sentence + "]"));
         }
     }
 
     void finish(String name) {
+        says("");
         System.out.println(name + ": " + looked + " answers, " + wrong + " not as due");
         if (wrong != 0 || looked == 0) {
             System.exit(1);
@@ -49,8 +72,32 @@ final class Check {
         due("stages of '" + text + "'", x.told(8), stages);
     }
 
+    /** A bench that is armed with a trigger, and keeps so many samples around those at which it fires. */
+    static TraceBench armed(String text, int before, int after) {
+        TraceBench x = new TraceBench();
+        trigger(x, text);
+        x.keep(before, after);
+        x.arm();
+        return x;
+    }
+
+    /** The samples at which its segments fired. */
+    static String fired(TraceBench x) {
+        StringBuilder all = new StringBuilder();
+        for (int k = 0; k < x.told(5); k++) {
+            all.append(k == 0 ? "" : " ").append(x.segment(k, 2));
+        }
+        return all.toString();
+    }
+
     static long sample(int a, int b, int c, int d) {
         return (a & 255L) << 24 | (b & 255L) << 16 | (c & 255L) << 8 | d & 255L;
+    }
+
+    /** Two samples of one trace come, 0 on the others. */
+    static int comeOn(TraceBench x, int trace, int first, int second) {
+        int shift = 24 - 8 * trace;
+        return x.come((first & 255L) << 32 + shift | (second & 255L) << shift);
     }
 
     /** An even number of samples of trace 0 come. */
@@ -72,22 +119,28 @@ final class Check {
     }
 
     /**
-     * A bench whose segment 0 is these samples (101 at most), of which the first two are always
-     * as told here: trace 3 makes it fire at the second one.
+     * A bench whose segment 0 is these samples of traces 0 and 1 (2 to 201):
+     * trace 3 makes it fire, as early as AFTER lets it.
      */
     static TraceBench withSegment(int[] first, int[] second) {
-        TraceBench x = new TraceBench();
-        trigger(x, "rise 3 1");
-        x.keep(1, first.length - 2);
-        x.arm();
+        int fires = Math.max(1, first.length - 101);
+        TraceBench x = armed("rise 3 1", fires, first.length - 1 - fires);
         for (int i = 0; i < first.length; i += 2) {
             int j = i + 1 < first.length ? i + 1 : i;
-            x.come(sample(first[i], second[i], 0, 0) << 32 | sample(first[j], second[j], 0, i == 0 ? 1 : 0));
+            x.come(sample(first[i], second[i], 0, i == fires ? 1 : 0) << 32
+                | sample(first[j], second[j], 0, j == fires ? 1 : 0));
         }
         return x;
     }
 
     static TraceBench withSegment(int... first) {
         return withSegment(first, new int[first.length]);
+    }
+
+    /** A bench whose segment 0 is one sample alone. */
+    static TraceBench withOnePlace(int number) {
+        TraceBench x = armed("rise 3 1", 0, 0);
+        x.come(sample(number, 0, 0, 1));
+        return x;
     }
 }
