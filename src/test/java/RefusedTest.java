@@ -178,7 +178,7 @@ public final class RefusedTest {
 
     private static void lookAtRing(TraceBench x, StringBuilder all) {
         int came = x.told(4);
-        for (int s = came - 80; s <= came; s++) {
+        for (int s = came - 50; s <= came; s++) {
             for (int t = 0; t < 4; t++) {
                 add(all, x.sample(s, t));
             }
@@ -361,26 +361,31 @@ public final class RefusedTest {
         refused("total(4)", x -> x.total(4), 0);
         refused("total(2)", x -> x.total(2), 0);
         for (int i = 0; i < LOOKS; i++) {
-            TraceBench x = maker.get();
-            x.fault();
-            x.first();
-            for (int what = 0; what < 10; what++) {
-                x.told(what);
-                x.about(0, what);
-                x.turns(0, 1, what);
-                x.segment(0, what);
-                x.eye(0, 0, 1, 0, 0, 1, what);
-                x.got(what);
-                x.when(what);
-                x.frame(what);
-                x.total(what);
-                x.place(0, what);
-                x.at(0, 0, what);
-                x.sample(what, 0);
-            }
-            if (i < 4) {
+            // With the sheets' look an object would come to more than its 512 calls.
+            if (i != 4) {
+                TraceBench x = maker.get();
+                lookAtAll(x);
                 CHECK.same(state + ": look " + i + " behind looking", look(x, i), untouched[i]);
             }
+        }
+    }
+
+    private static void lookAtAll(TraceBench x) {
+        x.fault();
+        x.first();
+        for (int what = 0; what < 10; what++) {
+            x.told(what);
+            x.about(0, what);
+            x.turns(0, 1, what);
+            x.segment(0, what);
+            x.eye(0, 0, 1, 0, 0, 1, what);
+            x.got(what);
+            x.when(what);
+            x.frame(what);
+            x.total(what);
+            x.place(0, what);
+            x.at(0, 0, what);
+            x.sample(what, 0);
         }
     }
 
