@@ -97,13 +97,32 @@ public final class FaceTest {
             check.due("the word " + word, Pattern.compile("\\b" + word + "\\b").matcher(code).find() ? 1 : 0, 0);
         }
         check.due("lambdas", code.contains("->") || code.contains("::") ? 1 : 0, 0);
+        check.due("names that end in Exact", Pattern.compile("Exact\\b").matcher(code).find() ? 1 : 0, 0);
+        sizes(check, TraceBench.class);
+        check.due("at most 12 classes", TraceBench.class.getDeclaredClasses().length < 12 ? 1 : 0, 1);
         for (Class<?> inside : TraceBench.class.getDeclaredClasses()) {
             check.due(inside + " static", Modifier.isStatic(inside.getModifiers()) ? 1 : 0, 1);
+            sizes(check, inside);
             for (Method m : inside.getDeclaredMethods()) {
                 for (Method ours : TraceBench.class.getDeclaredMethods()) {
                     check.due(inside + " " + m.getName(), m.getName().equals(ours.getName()) ? 1 : 0, 0);
                 }
             }
+        }
+    }
+
+    private static void sizes(Check check, Class<?> one) {
+        int fields = 0;
+        for (Field f : one.getDeclaredFields()) {
+            if (Modifier.isStatic(f.getModifiers())) {
+                check.due(one + " " + f.getName() + " final", Modifier.isFinal(f.getModifiers()) ? 1 : 0, 1);
+            } else {
+                fields++;
+            }
+        }
+        check.due(one + " at most 20 fields", fields <= 20 ? 1 : 0, 1);
+        for (Method m : one.getDeclaredMethods()) {
+            check.due(m + " at most 7 parameters", m.getParameterCount() <= 7 ? 1 : 0, 1);
         }
     }
 }
